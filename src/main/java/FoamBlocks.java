@@ -593,7 +593,8 @@ public final class FoamBlocks {
         }
 
         int core(int block) {
-            return Math.max(COLDEST, heats[block] - cools[block] * (now - cutAt[block]));
+            int core = heats[block] - cools[block] * (now - cutAt[block]);
+            return core < COLDEST ? COLDEST : core;
         }
 
         private boolean isHot(int block) {

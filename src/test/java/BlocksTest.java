@@ -7,6 +7,8 @@ public final class BlocksTest {
         cores();
         hotBlocksApart();
         blocksThatAreNotHot();
+        hotOnEitherSide();
+        backInTheOnlyFreePlaces();
         noPlaceLeft();
         placesAtTheEdge();
         lifts();
@@ -118,6 +120,49 @@ public final class BlocksTest {
         x.lift(0);
         check.due("lay() of the first one again", x.lay(), 1);
         placesAre(x, 0, -2, 1, -2, 2, 3);
+    }
+
+    /** A hot neighbour behind counts as much as one ahead. */
+    private static void hotOnEitherSide() {
+        FoamBlocks x = withBlocks(40, 1, 1);
+        x.kind(180, 1);
+        more(x, 1, 2);
+        check.due("lay()", x.lay(), 3);
+        placesAre(x, 0, 1, -2, 2);
+        x.lift(0);
+        check.due("lay() of one that has a hot neighbour at place 0 now", x.lay(), 1);
+        placesAre(x, -2, 1, -2, 2, -2, 0);
+        x.lift(2);
+        check.due("lay() of a hot one", x.lay(), 1);
+        placesAre(x, -2, 1, -2, 2, -2, 0);
+    }
+
+    private static void backInTheOnlyFreePlaces() {
+        FoamBlocks x = withBlocks(180, 1, 13);
+        x.lay();
+        x.kind(40, 1);
+        more(x, 1, 12);
+        check.due("lay() of those that are not hot", x.lay(), 12);
+        x.lift(0);
+        x.lift(24);
+        check.due("place(0) is free", x.place(0), -2);
+        check.due("place(1) is free", x.place(1), -2);
+        check.due("lay() of the two again", x.lay(), 2);
+        check.due("place(0)", x.place(0), 0);
+        check.due("place(1)", x.place(1), 24);
+        FoamBlocks y = withBlocks(40, 1, 24);
+        y.kind(180, 1);
+        y.lay();
+        y.lift(1);
+        y.lift(0);
+        more(y, 1, 1);
+        check.due("lay() of 0 and 1", y.lay(), 2);
+        y.lift(23);
+        y.lift(22);
+        y.lift(21);
+        y.pass(1);
+        check.due("lay() by number", y.lay(), 3);
+        check.due("place(21)", y.place(21), 21);
     }
 
     /** Hot ones in each second place leave no place without a hot neighbour. */

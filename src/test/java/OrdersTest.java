@@ -11,8 +11,11 @@ public final class OrdersTest {
         onlyBlocksOfIt();
         fillsWithTheSizeThatIs();
         offcutsDownwards();
+        offcutsOfLongBlocks();
+        filledByOne();
         ledToLots();
         mostOrders();
+        allBlocksTaken();
         counts();
         troubles();
         check.end();
@@ -213,6 +216,57 @@ public final class OrdersTest {
         check.due("17 * 7 by 100 and 77 * 7 by 100", x.shred(), 1 + 5);
         check.due("led(0)", x.led(0), 7);
         check.due("shred() again", x.shred(), 0);
+    }
+
+    private static void offcutsOfLongBlocks() {
+        FoamBlocks x = new FoamBlocks();
+        x.kind(50, 1);
+        x.length(80);
+        x.size(60, 60);
+        x.pour(0, 80);
+        x.cut();
+        x.lay();
+        x.pass(24);
+        x.order(0, 0, 1, 1, 1);
+        check.due("fill(0)", x.fill(0), 1);
+        check.due("3,599 * 80 by 100", x.shred(), 2879);
+    }
+
+    private static void filledByOne() {
+        FoamBlocks x = withCured(2);
+        x.order(0, 0, 20, 10, 1);
+        check.due(x, "fill(0)", x.fill(0), 1, 0);
+        check.due(x, "fill(0) again", x.fill(0), -1, 4);
+        check.due("by(0, 0)", x.by(0, 0), 0);
+        check.noneBy(x, 0, 1);
+        check.due("one is left", x.count(6), 1);
+    }
+
+    /** All 200 blocks that there can be go to one order after another. */
+    private static void allBlocksTaken() {
+        FoamBlocks x = new FoamBlocks();
+        x.kind(50, 1);
+        x.length(5);
+        for (int i = 0; i < 10; i++) {
+            x.pour(0, 100);
+        }
+        check.due("cut()", x.cut(), 200);
+        for (int i = 0; i < 9; i++) {
+            int laid = Math.min(24, 200 - 24 * i);
+            check.due("lay()", x.lay(), laid);
+            x.pass(24);
+            x.order(0, 0, 20, 10, laid);
+            check.due(x, "fill(" + i + ")", x.fill(i), laid, 0);
+        }
+        for (int i = 0; i < 9; i++) {
+            check.due("by(" + i + ", 0)", x.by(i, 0), 24 * i);
+        }
+        check.due("by(8, 7)", x.by(8, 7), 199);
+        check.noneBy(x, 8, 8);
+        check.due("led(0)", x.led(0), 200);
+        check.due("no place is taken", x.count(6), 0);
+        x.pour(0, 5);
+        check.due(x, "those that are gone count too", x.cut(), -1, 3);
     }
 
     private static void ledToLots() {
