@@ -202,6 +202,10 @@ public final class BeltEdgesTest {
         check.due("LOTS", x.count(4), 1);
         runIs(x, 0, 0, 1990, 0);
         check.due("run(1, 0)", x.run(1, 0), -1);
+        x.change(0, 1, 5);
+        check.due(x, "room for the mixed foam alone", x.pour(1, 6), -1, 3);
+        check.due("runs", x.count(2), 1);
+        check.due("how long THE BELT is", x.count(3), 1990);
         check.due(x, "room for 10", x.pour(0, 10), 2000, 0);
     }
 

@@ -200,6 +200,7 @@ public final class BlockEdgesTest {
         check.sentence("III: the first PLACE that is free", BlockEdgesTest::laidFirstFree);
         check.sentence("III: of whose two neighbours none has a HOT", BlockEdgesTest::laidApart);
         check.sentence("III: (one at the ends)", BlockEdgesTest::laidAtTheEnds);
+        check.sentence("III: (one at the ends), PLACE 23", BlockEdgesTest::laidBehindTheFirst);
         check.sentence("III: a neighbour that is HOT no more", BlockEdgesTest::laidByCooled);
         check.sentence("III: stays where it is (nowhere)", BlockEdgesTest::laidNoPlace);
         check.sentence("I: PLACES 24", BlockEdgesTest::mostPlaces);
@@ -280,13 +281,29 @@ public final class BlockEdgesTest {
         check.due("PLACE 23 has none behind", y.lay(), 1);
         check.due("place(23)", y.place(23), 23);
         y.lift(0);
-        check.due("PLACE 0 is no neighbour of 23", y.lay(), 1);
+        y.lift(5);
+        check.due("PLACE 0 is no neighbour of 23", y.lay(), 2);
         check.due("place(0)", y.place(0), 0);
+        check.due("place(5)", y.place(5), 5);
         y.lift(22);
         more(y, 1, 1);
         check.due("PLACE 22 has one behind: only 22 goes there", y.lay(), 1);
         check.due("place(22)", y.place(22), 22);
         liesNowhere(y, 24);
+    }
+
+    /** A hot one in place 0 is no neighbour of place 23. */
+    private static void laidBehindTheFirst() {
+        FoamBlocks x = withBlocks(180, 1, 1);
+        x.kind(50, 1);
+        more(x, 1, 21);
+        x.lay();
+        check.due("PLACE 1 is left free", x.place(1), -2);
+        check.due("PLACE 22 is taken", x.place(22), 21);
+        more(x, 0, 2);
+        check.due("PLACE 23 for one that is HOT, none for the next", x.lay(), 1);
+        check.due("place(23)", x.place(23), 22);
+        liesNowhere(x, 23);
     }
 
     private static void laidByCooled() {
@@ -352,6 +369,7 @@ public final class BlockEdgesTest {
         check.sentence("III: the first free PLACE that has no HOT neighbour",
             BlockEdgesTest::notHotFirst);
         check.sentence("III: else in the last free one", BlockEdgesTest::notHotLast);
+        check.sentence("III: the last free one is PLACE 0", BlockEdgesTest::notHotLastIsFirst);
         check.sentence("III: one that isn't HOT is no bar", BlockEdgesTest::notHotIsNoBar);
     }
 
@@ -382,6 +400,22 @@ public final class BlockEdgesTest {
         check.due("PLACES taken", x.count(6), 24);
         more(x, 1, 1);
         check.due("none is free", x.lay(), 0);
+        liesNowhere(x, 24);
+    }
+
+    /** Place 0 alone is free, and place 1 has a hot one. */
+    private static void notHotLastIsFirst() {
+        FoamBlocks x = withBlocks(50, 1, 1);
+        x.kind(180, 1);
+        more(x, 1, 1);
+        more(x, 0, 22);
+        x.lay();
+        check.due("place(1)", x.place(1), 1);
+        check.due("place(2) has a HOT one ahead, and is the last free", x.place(2), 23);
+        x.lift(0);
+        more(x, 1, 1);
+        check.due("lay() of 0, not of one that is HOT", x.lay(), 1);
+        check.due("place(0)", x.place(0), 0);
         liesNowhere(x, 24);
     }
 

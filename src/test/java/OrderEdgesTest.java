@@ -97,13 +97,14 @@ public final class OrderEdgesTest {
 
     private static void piecesBothWays() {
         FoamBlocks x = new FoamBlocks();
-        x.size(5, 3);
-        check.due("two of 3 by 1 and two of 1 by 3, and one", x.pieces(3, 1), 5);
-        x.size(7, 5);
-        check.due("pieces(5, 2) of 7 by 5", x.pieces(5, 2), 3);
-        x.size(8, 5);
-        check.due("pieces(5, 3) of 8 by 5", x.pieces(5, 3), 2);
-        check.due("pieces(3, 5) of 8 by 5", x.pieces(3, 5), 2);
+        check.due("six of 7 by 3, and two turned beside them", x.pieces(7, 3), 8);
+        check.due("told the other way", x.pieces(3, 7), 8);
+        x.size(7, 7);
+        check.due("three of 5 by 2, and one turned beside them", x.pieces(5, 2), 4);
+        x.size(5, 4);
+        check.due("one of 4 by 3 turned, and none beside it", x.pieces(4, 3), 1);
+        x.size(7, 4);
+        check.due("one of 4 by 3 and one turned", x.pieces(4, 3), 2);
     }
 
     /** A wheel of four round the middle can't be cut straight through. */
@@ -141,6 +142,10 @@ public final class OrderEdgesTest {
         check.due("60 of 59 by 1, and one turned beside them", x.pieces(59, 1), 61);
         x.size(59, 60);
         check.due("pieces(60, 1) of 59 by 60", x.pieces(60, 1), 59);
+        x.size(15, 15);
+        check.due("pieces(2, 1) of 15 by 15 leave 1", x.pieces(2, 1), 112);
+        x.size(7, 15);
+        check.due("pieces(3, 2) of 7 by 15 leave 3", x.pieces(3, 2), 17);
     }
 
     private static void order() {
@@ -232,6 +237,7 @@ public final class OrderEdgesTest {
         check.sentence("IV: until there are enough", OrderEdgesTest::fillEnough);
         check.sentence("IV: if there aren't, none is taken", OrderEdgesTest::fillNotEnough);
         check.sentence("18: one refused may be FILLED later", OrderEdgesTest::fillLater);
+        check.sentence("18: by all that lie in PLACES", OrderEdgesTest::fillByAll);
     }
 
     private static void fillOfNone() {
@@ -308,6 +314,33 @@ public final class OrderEdgesTest {
         check.due(x, "fill(0) again", x.fill(0), -1, 5);
         moreCured(x, 1);
         filledBy(x, 0, 0, 1);
+    }
+
+    /** The most there can be: 200 blocks, 24 of them cured, all for one order. */
+    private static void fillByAll() {
+        FoamBlocks x = new FoamBlocks();
+        x.kind(50, 1);
+        x.length(5);
+        x.pour(0, 400);
+        x.pour(0, 400);
+        x.pour(0, 200);
+        check.due("cut()", x.cut(), 200);
+        check.due("lay()", x.lay(), 24);
+        x.pass(24);
+        x.lift(3);
+        x.order(0, 0, 10, 10, 49);
+        x.order(0, 0, 10, 10, 48);
+        check.due(x, "one PIECE too few", x.fill(0), -1, 5);
+        check.due(x, "fill(1)", x.fill(1), 24, 0);
+        for (int i = 0; i < 24; i++) {
+            check.due("by(1, " + i + ")", x.by(1, i), i);
+        }
+        check.noneBy(x, 1, 24);
+        check.due("PIECES", x.led(0), 48);
+        check.due("PLACES taken", x.count(6), 0);
+        check.due("lay() of the next 24", x.lay(), 24);
+        check.due("place(0)", x.place(0), 24);
+        check.due("block(199, 0)", x.block(199, 0), 0);
     }
 
     private static void filled() {
